@@ -2,6 +2,8 @@
 final class AheadTests {
     static void check(Checks checks) {
         foresee(checks);
+        foreseenEnds(checks);
+        foreseenRunners(checks);
         foreseenIsWhatComes(checks);
         advise(checks);
         mean(checks);
@@ -33,6 +35,40 @@ final class AheadTests {
         checks.badArgument(race, "foresee(0, 0, 0)", () -> race.foresee(0, 0, 0));
         checks.badArgument(race, "foresee(0, 401, 2)", () -> race.foresee(0, 401, 2));
         checks.badArgument(race, "foresee(0, -1, 1)", () -> race.foresee(0, -1, 1));
+    }
+
+    /* Both end at another tick, the one who ends earlier having the greater number. */
+    private static void foreseenEnds(Checks checks) {
+        checks.begin("promise 15, foresee, ends");
+        SledgeRace race = new SledgeRace();
+        race.setLength(100);
+        race.addTeam(20, 10, 8);
+        race.addTeam(20, 10, 8);
+        race.setCrew(0, 9, 20, 3, 400);
+        race.setCrew(1, 9, 20, 3, 400);
+        checks.same("rank of 0, alike", race.foresee(0, 100, 1), 0);
+        checks.same("rank of 1, alike", race.foresee(1, 100, 1), 1);
+        race.order(0, 0, 10);
+        race.run(2);
+        race.order(0, 5, 10);
+        checks.same("rank of 0", race.foresee(0, 100, 1), 1);
+        checks.same("rank of 1", race.foresee(1, 100, 1), 0);
+    }
+
+    /* Two rollers are left behind at 1; so the runners and the gap tell how heavy the sledge is. */
+    private static void foreseenRunners(Checks checks) {
+        checks.begin("promise 15, foresee, runners");
+        for (int runners = 1; runners <= 3; runners++) {
+            for (int gap = 1; gap <= 40; gap += 13) {
+                SledgeRace race = new SledgeRace();
+                race.addTeam(20, 90, 8);
+                race.setCrew(0, 9, 10, runners, 400);
+                race.order(0, 5, gap);
+                int seen = race.foresee(0, 100, 0);
+                race.run(100);
+                checks.same("foresee(0, 100, 0)", seen, race.team(0, 0));
+            }
+        }
     }
 
     private static void foreseenIsWhatComes(Checks checks) {
@@ -145,6 +181,10 @@ final class AheadTests {
         checks.same("mean() of 4, 12 and 0", race.mean(), 16.0 / 3.0);
         race.restart();
         checks.same("mean() after restart", race.mean(), 0.0);
+        SledgeRace alone = new SledgeRace();
+        alone.addTeam(40, 30, 4);
+        alone.run(5);
+        checks.same("mean() of 20", alone.mean(), 20.0);
     }
 
     private static void digest(Checks checks) {

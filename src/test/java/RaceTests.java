@@ -129,6 +129,14 @@ final class RaceTests {
         checks.badIndex(race, "next(3, 0)", () -> race.next(3, 0));
         checks.badIndex(race, "next(0, -1)", () -> race.next(0, -1));
         checks.badIndex(race, "next(0, 3)", () -> race.next(0, 3));
+        // 9 * 20 * 10 * 1494 / 5000 = 537.84
+        SledgeRace tired = new SledgeRace();
+        tired.addTeam(40, 30, 4);
+        tired.setCrew(0, 9, 20, 1, 400);
+        tired.order(0, 7, 10);
+        tired.run(1);
+        tired.order(0, 10, 10);
+        checks.same("pull with the breath 994, cut", tired.next(0, 0), 537);
         SledgeRace cut = new SledgeRace();
         cut.addTeam(40, 25, 4);
         checks.same("drag, cut for each roller", cut.next(0, 1), 70 - 4 * 12);
@@ -142,6 +150,9 @@ final class RaceTests {
         checks.same("drag of soft turf downwards", cut.next(2, 1), 3);
         cut.lay(0, -4, 9);
         checks.same("drag of soft turf less steep", cut.next(2, 1), 48 - 18);
+        cut.addTeam(40, 99, 3);
+        cut.lay(0, -5, 0);
+        checks.same("drag of a heavy sledge, at least a tenth", cut.next(3, 1), 9);
     }
 
     private static void ranked(Checks checks) {

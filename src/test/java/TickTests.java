@@ -5,7 +5,9 @@ final class TickTests {
         rollersBehind(checks);
         gapAsItIsThen(checks);
         fewRollers(checks);
+        rollerAtTheFront(checks);
         threeRunners(checks);
+        oneRunner(checks);
         ropeThatHolds(checks);
         ropeThatBreaks(checks);
         weakestRope(checks);
@@ -109,6 +111,31 @@ final class TickTests {
         checks.badState(race, "roller 0 at 20", () -> race.roller(0, 0));
         race.run(1);
         checks.same("roller 0 at 21", race.roller(0, 0), 21 * 12 + 10);
+    }
+
+    private static void rollerAtTheFront(Checks checks) {
+        checks.begin("promise 8, a roller at the very front");
+        SledgeRace race = raceOf(40, 30, 2);
+        race.setCrew(0, 9, 20, 1, 400);
+        race.order(0, 5, 12);
+        race.run(9);
+        checks.same("roller 1 at 9", race.roller(0, 1), 120);
+        checks.same("ahead at 9", race.team(0, 6), 1);
+        race.run(1);
+        checks.same("front at 10", race.team(0, 0), 120);
+        checks.same("ahead at 10", race.team(0, 6), 0);
+        checks.same("under at 10", race.team(0, 4), 1);
+        race.run(1);
+        checks.same("roller 1 at 11", race.roller(0, 1), 126);
+    }
+
+    private static void oneRunner(Checks checks) {
+        checks.begin("promise 8, one runner, as at first");
+        SledgeRace race = raceOf(20, 10, 8);
+        race.run(1);
+        places(checks, race, "at 1", 4, 2, 0, -2, -5, -7, -9);
+        checks.same("carried at 1", race.team(0, 7), 1);
+        checks.same("behind at 1", race.team(0, 5), 1);
     }
 
     private static void threeRunners(Checks checks) {

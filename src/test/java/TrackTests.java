@@ -87,6 +87,9 @@ final class TrackTests {
         checks.same("slope at 299", race.ground(299, false), 4);
         checks.same("slope at 300", race.ground(300, false), -2);
         checks.same("softness at 3000", race.ground(3000, true), 9);
+        race.lay(1, 5, 5);
+        checks.same("slope at 0, beside 1", race.ground(0, false), 0);
+        checks.same("slope at 1", race.ground(1, false), 5);
         checks.badArgument(race, "ground(-101, true)", () -> race.ground(-101, true));
         checks.badArgument(race, "ground(-101, false)", () -> race.ground(-101, false));
         checks.badArgument(race, "ground(3001, true)", () -> race.ground(3001, true));
