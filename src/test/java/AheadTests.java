@@ -195,10 +195,10 @@ final class AheadTests {
             d = d * 31 + x;
         }
         checks.same("digest() without teams", empty.digest(), d);
-        SledgeRace race = mixedRace();
-        for (int ticks = 1; ticks <= 60; ticks++) {
-            race.run(ticks % 9 + 1);
-            checks.same("digest()", race.digest(), reckoned(race));
+        for (int ticks = 1; ticks <= 300; ticks += 5) {
+            SledgeRace race = mixedRace();
+            race.run(ticks);
+            checks.same("digest() at " + ticks, race.digest(), reckoned(race));
         }
     }
 

@@ -8,6 +8,8 @@ public final class AllTests {
         TickTests.check(checks);
         RaceTests.check(checks);
         AheadTests.check(checks);
+        LimitTests.check(checks);
+        RefusalTests.check(checks);
         ModelTests.check(checks);
         if (!checks.close()) {
             System.exit(1);

@@ -15,6 +15,8 @@ final class TickTests {
         breath(checks);
         groundUnderTheFront(checks);
         theEnd(checks);
+        nothingChangesAtTheEnd(checks);
+        eachForItself(checks);
     }
 
     private static SledgeRace raceOf(int length, int weight, int rollers) {
@@ -324,5 +326,65 @@ final class TickTests {
         checks.same("order(0, 2, 3)", race.order(0, 2, 3), 7);
         checks.same("effort", race.team(0, 9), 2);
         checks.same("gap", race.team(0, 10), 3);
+    }
+
+    /* Loads are carried no farther, what lies behind is not taken, and new ground counts for nothing. */
+    private static void nothingChangesAtTheEnd(Checks checks) {
+        checks.begin("promise 8, nothing changes at the end");
+        SledgeRace race = new SledgeRace();
+        race.setLength(100);
+        race.addTeam(20, 10, 8);
+        race.setCrew(0, 9, 20, 2, 400);
+        race.run(9);
+        String places = placesOf(race);
+        checks.same("carried at the end", race.team(0, 7) > 0 ? 1 : 0, 1);
+        race.lay(100, 5, 9);
+        race.order(0, 10, 40);
+        race.run(500);
+        checks.same("places", placesOf(race), places);
+        checks.same("rope", race.team(0, 2), 400);
+        checks.same("ropes that broke, though it would pull 540", race.count(5), 0);
+        checks.same("end", race.team(0, 8), 9);
+    }
+
+    private static String placesOf(SledgeRace race) {
+        StringBuilder text = new StringBuilder();
+        for (int k = 0; k < 8; k++) {
+            int index = k;
+            text.append(' ').append(Checks.outcome(() -> race.roller(0, index)));
+        }
+        return text.toString();
+    }
+
+    /* No team changes another one: beside others each does as it does alone. */
+    private static void eachForItself(Checks checks) {
+        checks.begin("promise 8, each for itself");
+        int[][] teams = {{20, 10, 8, 9, 20, 3, 400, 5, 10}, {40, 30, 4, 4, 10, 1, 59, 5, 10},
+            {80, 99, 2, 9, 20, 2, 300, 10, 40}, {33, 21, 5, 3, 9, 2, 100, 7, 1}};
+        SledgeRace together = new SledgeRace();
+        for (int[] t : teams) {
+            addTold(together, t);
+        }
+        together.run(77);
+        for (int team = 0; team < teams.length; team++) {
+            SledgeRace alone = new SledgeRace();
+            addTold(alone, teams[team]);
+            alone.run(77);
+            for (int what = 0; what < 12; what++) {
+                checks.same("team(" + team + ", " + what + ")", together.team(team, what), alone.team(0, what));
+            }
+            for (int k = 0; k < teams[team][2]; k++) {
+                int number = team;
+                int index = k;
+                checks.same("roller(" + team + ", " + k + ")", Checks.outcome(() -> together.roller(number, index)),
+                        Checks.outcome(() -> alone.roller(0, index)));
+            }
+        }
+    }
+
+    private static void addTold(SledgeRace race, int[] told) {
+        int team = race.addTeam(told[0], told[1], told[2]);
+        race.setCrew(team, told[3], told[4], told[5], told[6]);
+        race.order(team, told[7], told[8]);
     }
 }
