@@ -9,6 +9,7 @@ public final class AllTests {
         RaceTests.check(checks);
         AheadTests.check(checks);
         LimitTests.check(checks);
+        AgreementTests.check(checks);
         RefusalTests.check(checks);
         ModelTests.check(checks);
         if (!checks.close()) {

@@ -125,6 +125,7 @@ final class RaceTests {
         race.run(10);
         race.order(0, 1, 10);
         checks.same("next(0, 0), though it is at the end", race.next(0, 0), 54);
+        nextAtTheEnd(checks);
         checks.badIndex(race, "next(-1, 0)", () -> race.next(-1, 0));
         checks.badIndex(race, "next(3, 0)", () -> race.next(3, 0));
         checks.badIndex(race, "next(0, -1)", () -> race.next(0, -1));
@@ -153,6 +154,29 @@ final class RaceTests {
         cut.addTeam(40, 99, 3);
         cut.lay(0, -5, 0);
         checks.same("drag of a heavy sledge, at least a tenth", cut.next(3, 1), 9);
+    }
+
+    /* It is told as if it had not come to the end: of the ground and of the rollers as they are there. */
+    private static void nextAtTheEnd(Checks checks) {
+        SledgeRace race = new SledgeRace();
+        race.setLength(100);
+        race.addTeam(20, 10, 2);
+        race.setCrew(0, 9, 20, 1, 400);
+        race.order(0, 5, 40);
+        // Roller 1 is left behind at 2 and laid (24 + 40 + 1) / 12 + 2 = 7 ticks later, roller 0 at 3.
+        checks.same("run(9)", race.run(9), 1);
+        checks.same("under at the end", race.team(0, 4), 0);
+        checks.same("drag at the end", race.next(0, 1), 56);
+        checks.same("way at the end", race.next(0, 2), 12);
+        race.lay(100, 5, 9);
+        race.order(0, 4, 40);
+        checks.same("pull at the end", race.next(0, 0), 216);
+        // 10 * (20 + 50 + 36) / 10 = 106, twice
+        checks.same("drag at the end, up a slope", race.next(0, 1), 212);
+        checks.same("way at the end, up a slope", race.next(0, 2), 1);
+        race.run(1);
+        checks.same("front, which stays", race.team(0, 0), 108);
+        checks.same("way of its latest tick, which stays", race.team(0, 11), 12);
     }
 
     private static void ranked(Checks checks) {

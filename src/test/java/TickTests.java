@@ -258,6 +258,7 @@ final class TickTests {
         race.order(0, 0, 10);
         race.run(100);
         checks.same("breath at most", race.team(0, 1), 1000);
+        pullAheadOfBreath(checks);
         checks.begin("promise 8, breath of those who knot");
         SledgeRace knots = raceOf(40, 30, 4);
         knots.setCrew(0, 4, 10, 1, 100);
@@ -270,6 +271,27 @@ final class TickTests {
         checks.same("breath at 4", knots.team(0, 1), 976);
         knots.run(1);
         checks.same("breath at 5", knots.team(0, 1), 994);
+    }
+
+    /* Step 1 is done with the breath that was left by the tick ahead of it. */
+    private static void pullAheadOfBreath(Checks checks) {
+        SledgeRace race = raceOf(20, 10, 8);
+        race.setCrew(0, 6, 1, 1, 20);
+        race.order(0, 10, 10);
+        race.run(1);
+        // 6 * 10 * 1500 / 5000 = 18, (18 - 8) * 4 / 10 = 4
+        checks.same("way at 1", race.team(0, 11), 4);
+        checks.same("breath at 1", race.team(0, 1), 968);
+        race.run(1);
+        // 6 * 10 * 1468 / 5000 = 17, (17 - 8) * 4 / 10 = 3
+        checks.same("way at 2", race.team(0, 11), 3);
+        // 7 * 10 * 1500 / 5000 = 21 breaks the rope 20; with the breath 968 it would be 20 and hold.
+        SledgeRace breaks = raceOf(20, 10, 8);
+        breaks.setCrew(0, 7, 1, 1, 20);
+        breaks.order(0, 10, 10);
+        breaks.run(1);
+        checks.same("rope at 1", breaks.team(0, 2), 18);
+        checks.same("way at 1", breaks.team(0, 11), 0);
     }
 
     private static void groundUnderTheFront(Checks checks) {
